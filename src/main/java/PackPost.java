@@ -1268,9 +1268,8 @@ public final class PackPost {
             int bestEdition = NONE;
             for (int e = 0; e < count; e++) {
                 Entry one = at(e);
-                boolean fits = one != null && !one.closed && suits(one.said, said, i);
                 // A later ENTRY of the same EDITION goes ahead of an earlier one.
-                if (fits && one.said.edition >= bestEdition) {
+                if (one != null && !one.closed && suits(one.said, said, i) && one.said.edition >= bestEdition) {
                     best = e;
                     bestEdition = one.said.edition;
                 }

@@ -39,6 +39,16 @@ final class Crafts {
         return join(summed, four(sum(secret, summed, summed.length)));
     }
 
+    /** A draft of rows by packing 0, each of 120 bytes, and a last one of fewer. */
+    static void longDraft(PackPost x, int rows, int last) {
+        x.draft(0, 0, 0);
+        for (int r = 0; r <= rows; r++) {
+            x.row(r, 0);
+            x.add(r, -1, -1, -1, -1);
+            x.again(1, (r < rows ? 120 : last) - 1);
+        }
+    }
+
     /** A pack more of just these bytes (1 .. CRAFT_MOST): its number. */
     static int craft(PackPost x, int... bytes) {
         int rows = 1 + bytes.length / 130;

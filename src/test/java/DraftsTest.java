@@ -221,27 +221,11 @@ public final class DraftsTest {
 
     private static void packRefusals() {
         PackPost x = new PackPost();
-        x.draft(0, 0, 0);
-        for (int r = 0; r < 5; r++) {
-            x.row(r, 0);
-            x.add(r, -1, -1, -1, -1);
-            x.again(1, 119);
-        }
-        x.row(5, 0);
         // The head has 8 + 36 bytes, the pages 600, the SUM 4: 52 more make 700.
-        x.add(1, -1, -1, -1, -1);
-        x.again(1, 52);
+        Crafts.longDraft(x, 5, 53);
         Due.is("8: 701 bytes", x.pack(0), PackPost.FULL);
         Due.is("8: the refused draft stays", x.add(-1, -1, -1, -1, -1), 53);
-        x.draft(0, 0, 0);
-        for (int r = 0; r < 5; r++) {
-            x.row(r, 0);
-            x.add(r, -1, -1, -1, -1);
-            x.again(1, 119);
-        }
-        x.row(5, 0);
-        x.add(1, -1, -1, -1, -1);
-        x.again(1, 51);
+        Crafts.longDraft(x, 5, 52);
         Due.is("8: 704 bytes with the SIGN", x.pack(1), PackPost.FULL);
         Due.is("8: just 700 bytes", x.pack(0), 0);
         Due.is("8: its length", x.length(0), 700);

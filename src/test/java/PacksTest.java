@@ -192,6 +192,7 @@ public final class PacksTest {
         rowAt("ops: length 0, size 2", 14, 2, 0, 2, 0, 9);
         rowAt("ops: lacks some behind", 16, 2, 2, 2, 0, 1);
         rowAt("ops: size 0", 14, 2, 1, 0);
+        rowAt("ops: 127 stands for 128", 16, 2, 3, 4, 0, 9, 127, 1);
         rowAt("ops: 255 stands for 130", 16, 2, 120, 4, 0, 9, 255, 1);
         wrongAt("ops: cut at n", 16, 80, 75, 0, 0, 0, 0, 0, 1, 7, 2, 0, 5, 0, 4, 0, 9);
         wrongAt("ops: cut at d", 17, 80, 75, 0, 0, 0, 0, 0, 1, 7, 2, 0, 5, 0, 4, 0, 9, 129);
@@ -288,6 +289,8 @@ public final class PacksTest {
         spoiledSum[9] ^= 1;
         int q = Crafts.craft(x, Crafts.signed(5, spoiledSum));
         Due.is("14: a right sign on what is no pack", x.signer(q, 5), 0);
+        int letter = Crafts.craft(x, Crafts.signed(5, Crafts.summed(81, 75, 1, 2, 2, 0, 0, 0)));
+        Due.is("14: wrong at its first byte", x.signer(letter, 5), 0);
         int last = Crafts.craft(x, Crafts.signed(5, Crafts.summed(80, 75, 1, 2, 0, 0, 0, 0)));
         Due.is("14: a sign where none is due", x.signer(last, 5), 0);
     }

@@ -257,15 +257,7 @@ public final class PartsTest {
 
     private static void takeManyParts() {
         PackPost x = new PackPost();
-        x.draft(0, 0, 0);
-        for (int r = 0; r < 5; r++) {
-            x.row(r, 0);
-            x.add(r, -1, -1, -1, -1);
-            x.again(1, 119);
-        }
-        x.row(5, 0);
-        x.add(9, -1, -1, -1, -1);
-        x.again(1, 51);
+        Crafts.longDraft(x, 5, 52);
         x.pack(0);
         Due.is("15: 700 by 8", x.parts(0, 8), 88);
         for (int i = 87; i >= 0; i--) {

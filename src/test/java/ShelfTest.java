@@ -195,6 +195,11 @@ public final class ShelfTest {
         x.need(1, 0, false);
         x.row(0, 0);
         Due.is("22: those that it sees may be at odds", x.open(x.pack(0), 0), 3);
+        x.draft(5, 0, 0);
+        x.need(3, 0, false);
+        x.seal(0);
+        Due.is("22: group 0", x.open(x.pack(0), 0), PackPost.SEALED);
+        Due.is("23: group 0", x.why(), 0);
         x.draft(4, 0, 0);
         x.seal(1);
         x.need(1, 0, false);
@@ -254,6 +259,11 @@ public final class ShelfTest {
         x.trim(p, 1);
         Due.is("22: cut", x.open(p, 0), PackPost.BROKEN);
         Due.is("23: the cut", x.why(), 1);
+        x.spoil(p, 0, 1);
+        Due.is("22: wrong at its first byte", x.open(p, 0), PackPost.BROKEN);
+        Due.is("23: the first byte", x.why(), 0);
+        x.spoil(p, 0, 1);
+        x.open(p, 0);
         put(x, 1, 0, 0, needs());
         Due.is("23: a pack that is opened tells nothing", x.why(), 1);
         x.draft(2, 0, 0);
