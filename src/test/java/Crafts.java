@@ -49,6 +49,48 @@ final class Crafts {
         }
     }
 
+    /** The numbers next to least .. most on either side, and the farthest ones. */
+    static int[] beyond(int least, int most) {
+        return new int[] {least - 1, most + 1, Integer.MIN_VALUE, Integer.MAX_VALUE};
+    }
+
+    /** A pack more of the first n bytes (1 .. 700) of one whose pages change from byte to byte: its number. */
+    static int packOf(PackPost x, int n) {
+        x.draft(0, 0, 0);
+        for (int r = 0; r < 6; r++) {
+            x.row(r, 0);
+            x.add(7 * r + 1, 40 * r, 255 - r, 3, 90 + r);
+            x.again(5, r < 5 ? 115 : 47);
+        }
+        int p = x.pack(0);
+        x.trim(p, n);
+        return p;
+    }
+
+    /** The 700 bytes that packOf() cuts. */
+    static int[] bytesOfPack() {
+        int[] bytes = {80, 75, 0, 0, 0, 0, 0, 6};
+        for (int r = 0; r < 6; r++) {
+            int length = r < 5 ? 120 : 52;
+            bytes = join(bytes, r, 0, 0, length, 0, length);
+        }
+        for (int r = 0; r < 6; r++) {
+            int[] five = {7 * r + 1, 40 * r, 255 - r, 3, 90 + r};
+            for (int i = 0; i < (r < 5 ? 120 : 52); i++) {
+                bytes = join(bytes, five[i % 5]);
+            }
+        }
+        return summed(bytes);
+    }
+
+    /** So many packs more, each of 12 bytes. */
+    static void smallPacks(PackPost x, int n) {
+        for (int i = 0; i < n; i++) {
+            x.draft(0, 0, 0);
+            x.pack(0);
+        }
+    }
+
     /** A pack more of just these bytes (1 .. CRAFT_MOST): its number. */
     static int craft(PackPost x, int... bytes) {
         int rows = 1 + bytes.length / 130;
@@ -74,6 +116,23 @@ final class Crafts {
         return p;
     }
 
+    /** Opens a pack of this name and edition, with rows of these keys whose only byte is the name. */
+    static int put(PackPost x, int name, int edition, int manner, int[] needs, int... keys) {
+        x.draft(name, edition, manner);
+        for (int need : needs) {
+            x.need(need, 99, false);
+        }
+        for (int key : keys) {
+            x.row(key, 0);
+            x.add(name, -1, -1, -1, -1);
+        }
+        return x.open(x.pack(0), 0);
+    }
+
+    static int[] needs(int... names) {
+        return names;
+    }
+
     /** What check() answers for these bytes. */
     static int checkOf(int... bytes) {
         PackPost x = new PackPost();
@@ -95,6 +154,14 @@ final class Crafts {
                 x.bend(n - 4 + i, mask);
             }
         }
+    }
+
+    /** All of THE PATH of a key from an entry, and none behind it. */
+    static void pathIs(String what, PackPost x, int e, int key, int... due) {
+        for (int i = 0; i < due.length; i++) {
+            Due.is(what + ": path " + i, x.path(e, key, i), due[i]);
+        }
+        Due.is(what + ": path behind", x.path(e, key, due.length), -1);
     }
 
     static void sameBytes(String what, PackPost x, int p, int... want) {

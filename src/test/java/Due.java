@@ -2,8 +2,14 @@
 final class Due {
     private static int asked = 0;
     private static int wrong = 0;
+    private static String sentence = "";
 
     private Due() {
+    }
+
+    /** The sentence of the document, with its promise's number, that the answers from here on hold. */
+    static void sentence(String quoted) {
+        sentence = "[" + quoted + "] ";
     }
 
     static void is(String call, long got, long want) {
@@ -11,7 +17,7 @@ final class Due {
         if (got != want) {
             wrong++;
             if (wrong <= 40) {
-                System.out.println(call + " answered " + got + ", due is " + want);
+                System.out.println(sentence + call + " answered " + got + ", due is " + want);
             }
         }
     }

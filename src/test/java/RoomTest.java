@@ -8,6 +8,7 @@ import java.lang.management.ManagementFactory;
 public final class RoomTest {
     private static final long MOST_BYTES = 1_000_000;
     private static final int CALLS = 512;
+    private static final int SETUP_CALLS = 65;
     private static final com.sun.management.ThreadMXBean THREADS =
         (com.sun.management.ThreadMXBean) ManagementFactory.getThreadMXBean();
 
@@ -40,7 +41,7 @@ public final class RoomTest {
             x.need(60, 0, true);
             x.pack(0);
         }
-        for (int i = 0; i < CALLS - 60; i++) {
+        for (int i = 0; i < (CALLS - SETUP_CALLS) / callsOf(kind); i++) {
             sink += one(x, kind, i);
         }
     }
@@ -55,6 +56,10 @@ public final class RoomTest {
             }
             x.again(15, 105);
         }
+    }
+
+    private static int callsOf(int kind) {
+        return kind == 6 || kind == 8 ? 3 : kind == 7 ? 2 : 1;
     }
 
     private static int one(PackPost x, int kind, int i) {

@@ -22,23 +22,6 @@ public final class ShelfTest {
         Due.end("ShelfTest");
     }
 
-    /** Opens a pack of this name and edition, with rows of these keys whose only byte is the name. */
-    private static int put(PackPost x, int name, int edition, int manner, int[] needs, int... keys) {
-        x.draft(name, edition, manner);
-        for (int need : needs) {
-            x.need(need, 99, false);
-        }
-        for (int key : keys) {
-            x.row(key, 0);
-            x.add(name, -1, -1, -1, -1);
-        }
-        return x.open(x.pack(0), 0);
-    }
-
-    private static int[] needs(int... names) {
-        return names;
-    }
-
     private static void openRefusals() {
         PackPost x = new PackPost();
         Due.is("22: no pack", x.open(0, 0), PackPost.NUMBER);
@@ -88,7 +71,7 @@ public final class ShelfTest {
         Due.is("23: SIGN tells nothing", x.why(), 0);
         Due.is("22: NEED ahead of SEALED", x.open(1, 4), PackPost.NEED);
         Due.is("23: the need", x.why(), 1);
-        put(x, 9, 0, 0, needs());
+        Crafts.put(x, 9, 0, 0, Crafts.needs());
         Due.is("22: SEALED", x.open(1, 4), PackPost.SEALED);
         x.spoil(1, 7, 1);
         Due.is("22: BROKEN ahead of SIGN", x.open(1, 5), PackPost.BROKEN);
@@ -134,11 +117,11 @@ public final class ShelfTest {
 
     private static void meetingNeeds() {
         PackPost x = new PackPost();
-        put(x, 5, 10, 0, needs());
-        put(x, 5, 20, 0, needs());
-        put(x, 5, 20, 0, needs());
-        put(x, 5, 15, 0, needs());
-        put(x, 6, 12, 0, needs());
+        Crafts.put(x, 5, 10, 0, Crafts.needs());
+        Crafts.put(x, 5, 20, 0, Crafts.needs());
+        Crafts.put(x, 5, 20, 0, Crafts.needs());
+        Crafts.put(x, 5, 15, 0, Crafts.needs());
+        Crafts.put(x, 6, 12, 0, Crafts.needs());
         int e = openNeeding(x, 5, 99, false);
         Due.is("4: highest edition, the latest entry", x.entry(e, 8), 2);
         e = openNeeding(x, 5, 19, false);
@@ -154,7 +137,7 @@ public final class ShelfTest {
         e = openNeeding(x, 5, 20, true);
         Due.is("4: not a CLOSED one", x.entry(e, 8), 1);
         PackPost y = new PackPost();
-        put(y, 5, 10, 0, needs());
+        Crafts.put(y, 5, 10, 0, Crafts.needs());
         y.close(0);
         Due.is("22: none but a CLOSED one", openNeeding(y, 5, 10, false), PackPost.NEED);
         y.reopen(0);
@@ -229,9 +212,9 @@ public final class ShelfTest {
         x.seal(2);
         x.row(80, 0);
         x.open(x.pack(0), 0);
-        put(x, 1, 0, 0, needs(0));
-        put(x, 2, 0, 0, needs(1));
-        Due.is("22: what these see", put(x, 3, 0, 0, needs(2), 40), PackPost.SEALED);
+        Crafts.put(x, 1, 0, 0, Crafts.needs(0));
+        Crafts.put(x, 2, 0, 0, Crafts.needs(1));
+        Due.is("22: what these see", Crafts.put(x, 3, 0, 0, Crafts.needs(2), 40), PackPost.SEALED);
         Due.is("23: group 2", x.why(), 2);
         x.draft(3, 0, 0);
         x.need(2, 0, false);
@@ -242,9 +225,9 @@ public final class ShelfTest {
         x.close(0);
         x.close(1);
         Due.is("22: seen also when closed since", x.open(p, 0), PackPost.SEALED);
-        put(x, 1, 1, 0, needs());
+        Crafts.put(x, 1, 1, 0, Crafts.needs());
         Due.is("22: as it was when opened", x.open(p, 0), PackPost.SEALED);
-        Due.is("22: nothing of it", put(x, 3, 0, 0, needs(1), 40), 4);
+        Due.is("22: nothing of it", Crafts.put(x, 3, 0, 0, Crafts.needs(1), 40), 4);
     }
 
     private static void why() {
@@ -264,7 +247,7 @@ public final class ShelfTest {
         Due.is("23: the first byte", x.why(), 0);
         x.spoil(p, 0, 1);
         x.open(p, 0);
-        put(x, 1, 0, 0, needs());
+        Crafts.put(x, 1, 0, 0, Crafts.needs());
         Due.is("23: a pack that is opened tells nothing", x.why(), 1);
         x.draft(2, 0, 0);
         x.need(1, 0, false);
@@ -273,8 +256,8 @@ public final class ShelfTest {
         x.need(7, 0, false);
         x.open(x.pack(0), 0);
         Due.is("23: the first need that isn't met", x.why(), 1);
-        put(x, 5, 0, 0, needs());
-        put(x, 7, 0, 0, needs());
+        Crafts.put(x, 5, 0, 0, Crafts.needs());
+        Crafts.put(x, 7, 0, 0, Crafts.needs());
         x.open(2, 0);
         Due.is("23: need 2 of 4", x.why(), 2);
         x.draft(8, 0, 0);
@@ -282,7 +265,7 @@ public final class ShelfTest {
         x.seal(3);
         x.seal(14);
         x.open(x.pack(0), 0);
-        Due.is("22: the least group", put(x, 3, 0, 0, needs(8), 230, 150, 50, 60), PackPost.SEALED);
+        Due.is("22: the least group", Crafts.put(x, 3, 0, 0, Crafts.needs(8), 230, 150, 50, 60), PackPost.SEALED);
         Due.is("23: the least group", x.why(), 3);
         x.open(x.pack(0), 0);
         Due.is("23: it stays", x.why(), 3);
@@ -290,8 +273,8 @@ public final class ShelfTest {
 
     private static void entry() {
         PackPost x = new PackPost();
-        put(x, 4, 3, 0, needs());
-        put(x, 5, 3, 0, needs());
+        Crafts.put(x, 4, 3, 0, Crafts.needs());
+        Crafts.put(x, 5, 3, 0, Crafts.needs());
         x.draft(63, 99, 1);
         x.need(5, 99, false);
         x.need(4, 3, true);
@@ -317,7 +300,7 @@ public final class ShelfTest {
         Due.is("24: CLOSED", x.entry(2, 6), 1);
         Due.is("24: overlays", x.entry(2, 7), 2);
         Due.is("24: a CLOSED one met it when it was opened", x.entry(2, 8), 1);
-        put(x, 4, 3, 0, needs());
+        Crafts.put(x, 4, 3, 0, Crafts.needs());
         Due.is("24: a later one doesn't", x.entry(2, 9), 0);
         x.draft(0, 0, 0);
         x.open(x.pack(5), 0);
@@ -326,7 +309,7 @@ public final class ShelfTest {
 
     private static void closeAndReopen() {
         PackPost x = new PackPost();
-        put(x, 1, 0, 0, needs());
+        Crafts.put(x, 1, 0, 0, Crafts.needs());
         Due.is("25: none such", x.close(1), PackPost.NUMBER);
         Due.is("25: -1", x.close(-1), PackPost.NUMBER);
         Due.is("26: none such", x.reopen(1), PackPost.NUMBER);
@@ -344,7 +327,7 @@ public final class ShelfTest {
     private static void overlay() {
         PackPost x = new PackPost();
         for (int e = 0; e < 6; e++) {
-            put(x, e, 0, 0, needs());
+            Crafts.put(x, e, 0, 0, Crafts.needs());
         }
         Due.is("27: no e", x.overlay(6, 0), PackPost.NUMBER);
         Due.is("27: no o", x.overlay(0, 6), PackPost.NUMBER);
@@ -365,10 +348,10 @@ public final class ShelfTest {
 
     private static void findByManner() {
         PackPost x = new PackPost();
-        put(x, 0, 0, 0, needs(), 1, 2, 3);
-        put(x, 1, 0, 0, needs(), 2, 3, 4);
-        put(x, 2, 0, 0, needs(1, 0), 3, 5);
-        put(x, 3, 0, 1, needs(1, 0), 3, 5);
+        Crafts.put(x, 0, 0, 0, Crafts.needs(), 1, 2, 3);
+        Crafts.put(x, 1, 0, 0, Crafts.needs(), 2, 3, 4);
+        Crafts.put(x, 2, 0, 0, Crafts.needs(1, 0), 3, 5);
+        Crafts.put(x, 3, 0, 1, Crafts.needs(1, 0), 3, 5);
         Due.is("28: itself first", x.find(2, 3), 2);
         Due.is("28: needs first", x.find(3, 3), 1);
         Due.is("28: needs in order", x.find(2, 2), 1);
@@ -382,46 +365,39 @@ public final class ShelfTest {
         Due.is("28: key -1", x.find(0, -1), -2);
         Due.is("28: entry 4", x.find(4, 0), -2);
         Due.is("28: entry -1", x.find(-1, 0), -2);
-        put(x, 4, 0, 0, needs(3, 2), 9);
+        Crafts.put(x, 4, 0, 0, Crafts.needs(3, 2), 9);
         Due.is("28: each by its own manner", x.find(4, 3), 1);
-        put(x, 5, 0, 1, needs(2, 3), 3);
+        Crafts.put(x, 5, 0, 1, Crafts.needs(2, 3), 3);
         Due.is("28: each by its own manner, other order", x.find(5, 3), 2);
-    }
-
-    private static void pathIs(String what, PackPost x, int e, int key, int... due) {
-        for (int i = 0; i < due.length; i++) {
-            Due.is(what + " path " + i, x.path(e, key, i), due[i]);
-        }
-        Due.is(what + " path behind", x.path(e, key, due.length), -1);
     }
 
     private static void findAskedOnce() {
         PackPost x = new PackPost();
-        put(x, 0, 0, 0, needs(), 7);
-        put(x, 1, 0, 1, needs(0));
-        put(x, 2, 0, 0, needs(0));
-        put(x, 3, 0, 0, needs(1, 2), 8);
-        put(x, 4, 0, 1, needs(1, 2, 3), 8);
-        pathIs("29: asked once", x, 3, 9, 3, 0, 1, 2);
-        pathIs("29: of manner 1", x, 4, 9, 0, 1, 2, 3, 4);
-        pathIs("29: up to where it is found", x, 3, 7, 3, 0);
-        pathIs("29: found behind others", x, 4, 8, 0, 1, 2, 3);
-        pathIs("29: alone", x, 0, 9, 0);
+        Crafts.put(x, 0, 0, 0, Crafts.needs(), 7);
+        Crafts.put(x, 1, 0, 1, Crafts.needs(0));
+        Crafts.put(x, 2, 0, 0, Crafts.needs(0));
+        Crafts.put(x, 3, 0, 0, Crafts.needs(1, 2), 8);
+        Crafts.put(x, 4, 0, 1, Crafts.needs(1, 2, 3), 8);
+        Crafts.pathIs("29: asked once", x, 3, 9, 3, 0, 1, 2);
+        Crafts.pathIs("29: of manner 1", x, 4, 9, 0, 1, 2, 3, 4);
+        Crafts.pathIs("29: up to where it is found", x, 3, 7, 3, 0);
+        Crafts.pathIs("29: found behind others", x, 4, 8, 0, 1, 2, 3);
+        Crafts.pathIs("29: alone", x, 0, 9, 0);
     }
 
     private static void findClosed() {
         PackPost x = new PackPost();
-        put(x, 0, 0, 0, needs(), 7);
-        put(x, 1, 0, 0, needs(0), 8);
-        put(x, 2, 0, 0, needs(1));
-        put(x, 3, 0, 0, needs(1, 0));
+        Crafts.put(x, 0, 0, 0, Crafts.needs(), 7);
+        Crafts.put(x, 1, 0, 0, Crafts.needs(0), 8);
+        Crafts.put(x, 2, 0, 0, Crafts.needs(1));
+        Crafts.put(x, 3, 0, 0, Crafts.needs(1, 0));
         x.close(1);
         Due.is("28: not through a CLOSED one", x.find(2, 7), -1);
         Due.is("28: but another way", x.find(3, 7), 0);
         Due.is("28: the first may be CLOSED", x.find(1, 8), 1);
         Due.is("28: and asks on", x.find(1, 7), 0);
-        pathIs("29: without the CLOSED one", x, 3, 9, 3, 0);
-        put(x, 1, 0, 0, needs(), 9);
+        Crafts.pathIs("29: without the CLOSED one", x, 3, 9, 3, 0);
+        Crafts.put(x, 1, 0, 0, Crafts.needs(), 9);
         Due.is("28: another one doesn't stand in", x.find(2, 9), -1);
         x.reopen(1);
         Due.is("28: reopened", x.find(2, 7), 0);
@@ -430,16 +406,16 @@ public final class ShelfTest {
         PackPost y = new PackPost();
         int last = -1;
         for (int n = 0; n < 12; n++) {
-            last = put(y, n, 0, n % 2, n == 0 ? needs() : needs(n - 1), n);
+            last = Crafts.put(y, n, 0, n % 2, n == 0 ? Crafts.needs() : Crafts.needs(n - 1), n);
         }
         Due.is("28: a chain of twelve", y.find(last, 0), 0);
-        pathIs("29: a chain of twelve", y, last, 200, 10, 8, 6, 4, 2, 0, 1, 3, 5, 7, 9, 11);
+        Crafts.pathIs("29: a chain of twelve", y, last, 200, 10, 8, 6, 4, 2, 0, 1, 3, 5, 7, 9, 11);
     }
 
     private static void path() {
         PackPost x = new PackPost();
-        put(x, 0, 0, 0, needs(), 7);
-        put(x, 1, 0, 0, needs(0), 8);
+        Crafts.put(x, 0, 0, 0, Crafts.needs(), 7);
+        Crafts.put(x, 1, 0, 0, Crafts.needs(0), 8);
         Due.is("29: first", x.path(1, 7, 0), 1);
         Due.is("29: second", x.path(1, 7, 1), 0);
         Due.is("29: behind", x.path(1, 7, 2), -1);
@@ -457,10 +433,10 @@ public final class ShelfTest {
 
     private static void page() {
         PackPost x = new PackPost();
-        put(x, 0, 0, 0, needs(), 1, 2);
-        put(x, 1, 0, 0, needs(0), 2, 3);
-        put(x, 2, 0, 0, needs(), 3, 4);
-        put(x, 3, 0, 0, needs(2), 2, 5);
+        Crafts.put(x, 0, 0, 0, Crafts.needs(), 1, 2);
+        Crafts.put(x, 1, 0, 0, Crafts.needs(0), 2, 3);
+        Crafts.put(x, 2, 0, 0, Crafts.needs(), 3, 4);
+        Crafts.put(x, 3, 0, 0, Crafts.needs(2), 2, 5);
         Due.is("30: found in itself", x.page(1, 2), 1);
         Due.is("30: found in a need", x.page(1, 1), 0);
         Due.is("30: without", x.page(1, 4), -1);
@@ -484,7 +460,7 @@ public final class ShelfTest {
         Due.is("30: entry -1", x.page(-1, 2), -2);
         Due.is("30: key 256", x.page(1, 256), -2);
         Due.is("30: key -1", x.page(1, -1), -2);
-        put(x, 5, 0, 0, needs(3));
+        Crafts.put(x, 5, 0, 0, Crafts.needs(3));
         x.overlay(3, 0);
         Due.is("30: a need's overlay is no matter", x.page(4, 2), 3);
     }
@@ -499,7 +475,7 @@ public final class ShelfTest {
         x.again(2, 118);
         x.row(3, 0);
         x.open(x.pack(0), 0);
-        put(x, 1, 0, 0, needs(0), 2);
+        Crafts.put(x, 1, 0, 0, Crafts.needs(0), 2);
         Due.is("31: first", x.read(0, 1, 0), 7);
         Due.is("31: last", x.read(0, 1, 2), 8);
         Due.is("31: behind", x.read(0, 1, 3), -1);
@@ -524,9 +500,9 @@ public final class ShelfTest {
         PackPost x = new PackPost();
         int[] editions = {5, 9, 5, 0, 9, 7};
         for (int edition : editions) {
-            put(x, 3, edition, 0, needs());
+            Crafts.put(x, 3, edition, 0, Crafts.needs());
         }
-        put(x, 4, 99, 0, needs());
+        Crafts.put(x, 4, 99, 0, Crafts.needs());
         x.close(4);
         int[] due = {4, 1, 5, 2, 0, 3, -1};
         for (int i = 0; i < due.length; i++) {
@@ -542,12 +518,12 @@ public final class ShelfTest {
 
     private static void needed() {
         PackPost x = new PackPost();
-        put(x, 0, 0, 0, needs());
-        put(x, 1, 0, 0, needs());
-        put(x, 2, 0, 0, needs(0));
-        put(x, 3, 0, 0, needs(1, 0));
-        put(x, 4, 0, 0, needs(3));
-        put(x, 5, 0, 0, needs(1, 2, 3, 0));
+        Crafts.put(x, 0, 0, 0, Crafts.needs());
+        Crafts.put(x, 1, 0, 0, Crafts.needs());
+        Crafts.put(x, 2, 0, 0, Crafts.needs(0));
+        Crafts.put(x, 3, 0, 0, Crafts.needs(1, 0));
+        Crafts.put(x, 4, 0, 0, Crafts.needs(3));
+        Crafts.put(x, 5, 0, 0, Crafts.needs(1, 2, 3, 0));
         x.close(3);
         x.close(0);
         int[] due = {2, 3, 5, -1};
@@ -561,8 +537,8 @@ public final class ShelfTest {
         Due.is("33: i -1", x.needed(0, -1), -1);
         Due.is("33: entry 6", x.needed(6, 0), -1);
         Due.is("33: entry -1", x.needed(-1, 0), -1);
-        put(x, 0, 0, 0, needs());
-        put(x, 6, 0, 0, needs(0));
+        Crafts.put(x, 0, 0, 0, Crafts.needs());
+        Crafts.put(x, 6, 0, 0, Crafts.needs(0));
         Due.is("33: a later one of that name", x.needed(6, 0), 7);
         Due.is("33: not the older one", x.needed(0, 3), -1);
     }
