@@ -330,16 +330,19 @@ public final class RefusalsTest {
         same("read behind", made, x -> x.read(1, 17, 12), -1);
         same("edition of none", made, x -> x.edition(9, 0), -1);
         same("needed of none", made, x -> x.needed(9, 0), -1);
-        same("overlay full", x -> {
+        Consumer<PackPost> overlaid = x -> {
             rich(x);
             for (int e = 3; e < 6; e++) {
-                Crafts.put(x, e, 0, 0, Crafts.needs(), 17);
+                Crafts.put(x, e, 0, 0, Crafts.needs(), 17, 200);
             }
             x.overlay(1, 0);
             x.overlay(1, 2);
             x.overlay(1, 3);
             x.overlay(1, 4);
-        }, x -> x.overlay(1, 5), PackPost.FULL);
+        };
+        same("overlay full", overlaid, x -> x.overlay(1, 5), PackPost.FULL);
+        same("overlay the third again", overlaid, x -> x.overlay(1, 3), PackPost.TWICE);
+        same("overlay the last again", overlaid, x -> x.overlay(1, 4), PackPost.TWICE);
     }
 
     private static void answersWithoutChange() {

@@ -288,6 +288,8 @@ public final class ShelfEdgesTest {
             Due.is("the group below", openWith(x, 2, 0, (group + 15) % 16, -1), 2);
             Due.is("the group above", openWith(x, 3, 1, (group + 1) % 16, -1), 3);
             Due.is("it doesn't see them", openWith(x, 4, -1, group, group * 16), 4);
+            openWith(x, 5, -1, group, -1);
+            Due.is("a like seal of one without rows", openWith(x, 6, 5, group, -1), 6);
         }
     }
 
@@ -778,6 +780,12 @@ public final class ShelfEdgesTest {
             Due.is("key " + key, x.page(0, key), due[key - 1]);
             Due.is("its byte " + key, x.read(0, key, 0), due[key - 1]);
             Due.is("found " + key, x.find(0, key), key < 7 ? 0 : -1);
+        }
+        for (int o = 1; o <= 4; o++) {
+            Due.is("put on again", x.overlay(0, o), PackPost.TWICE);
+            Due.is("it isn't the last for that", x.page(0, 1), 4);
+            Due.is("nor the last but one", x.page(0, 2), 3);
+            Due.is("nor the second", x.page(0, 3), 2);
         }
         x.close(4);
         Due.is("CLOSED, its ROWS are an OVERLAY still", x.page(0, 1), 4);
