@@ -1331,7 +1331,7 @@ public final class PackPost {
                 asked[e] = false;
             }
             steps = 0;
-            return ask(shelf, first, key, 0);
+            return ask(this, shelf, first, key, 0);
         }
 
         int step(int i) {
@@ -1339,26 +1339,26 @@ public final class PackPost {
         }
 
         // NEEDS are met by earlier ENTRIES alone, so no asking goes deeper than there are ENTRIES.
-        private int ask(Shelf shelf, int e, int key, int depth) {
+        private static int ask(Finding now, Shelf shelf, int e, int key, int depth) {
             Entry one = shelf.at(e);
-            if (one == null || depth >= ENTRIES || !isBelow(e, ENTRIES) || asked[e]) {
+            if (one == null || depth >= ENTRIES || !isBelow(e, ENTRIES) || now.asked[e]) {
                 return NONE;
             }
             if (depth > 0 && one.closed) {
                 return NONE;
             }
-            asked[e] = true;
+            now.asked[e] = true;
             boolean needsFirst = one.said.manner == 1;
-            if (!needsFirst && looksInto(one, e, key)) {
+            if (!needsFirst && now.looksInto(one, e, key)) {
                 return e;
             }
             for (int i = 0; i < one.said.needCount; i++) {
-                int found = ask(shelf, one.meeting(i), key, depth + 1);
+                int found = ask(now, shelf, one.meeting(i), key, depth + 1);
                 if (found >= 0) {
                     return found;
                 }
             }
-            return needsFirst && looksInto(one, e, key) ? e : NONE;
+            return needsFirst && now.looksInto(one, e, key) ? e : NONE;
         }
 
         private boolean looksInto(Entry one, int e, int key) {

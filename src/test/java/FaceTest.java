@@ -7,6 +7,7 @@ import java.nio.file.Path;
 import java.util.Arrays;
 import java.util.Set;
 import java.util.TreeSet;
+import java.util.regex.Matcher;
 import java.util.regex.Pattern;
 
 /** The document's face, and the rules of the language that a look at the class and its source can tell. */
@@ -21,11 +22,17 @@ public final class FaceTest {
         "\\bsynchronized\\b", "\\bimport\\b", "\\bpackage\\b", "->", "::", "\\bstatic\\s*\\{", "\\w+Exact\\(",
         "\\bSystem\\.(?!arraycopy)", "\\bvar\\b", "\\bObject\\b", "\"", "\\bprotected\\b"};
 
+    private static final Path SOURCE = Path.of("src/main/java/PackPost.java");
+    // A method's head, and its body up to the brace at the head's own indent.
+    private static final Pattern METHOD =
+        Pattern.compile("(?ms)^( +)((?:\\w+ )*)[\\w\\[\\]]+ (\\w+)\\([^)]*\\) \\{$(.*?)^\\1\\}$");
+
     public static void main(String[] args) throws IOException, ReflectiveOperationException {
         calls();
         constants();
         namesInside();
         source();
+        recursion();
         Due.end("FaceTest");
     }
 
@@ -88,12 +95,31 @@ public final class FaceTest {
         }
     }
 
+    private static String withoutComments(String all) {
+        return all.replaceAll("(?s)/\\*.*?\\*/", "").replaceAll("//[^\n]*", "");
+    }
+
     private static void source() throws IOException {
-        String all = Files.readString(Path.of("src/main/java/PackPost.java"));
-        String code = all.replaceAll("(?s)/\\*.*?\\*/", "").replaceAll("//[^\n]*", "");
+        String all = Files.readString(SOURCE);
+        String code = withoutComments(all);
         for (String barred : BARRED) {
             Due.isTrue("rules 4, 5, 6: no " + barred, !Pattern.compile(barred).matcher(code).find());
         }
         Due.isTrue("plain letters alone", all.chars().allMatch(c -> c < 128));
+    }
+
+    private static void recursion() throws IOException {
+        Matcher method = METHOD.matcher(withoutComments(Files.readString(SOURCE)));
+        int methods = 0;
+        int ownCallers = 0;
+        for (int from = 0; method.find(from); from = method.end()) {
+            methods++;
+            if (Pattern.compile("(?<![\\w.])(this\\.)?" + method.group(3) + "\\(").matcher(method.group(4)).find()) {
+                ownCallers++;
+                Due.isTrue("rule 8: private static " + method.group(3), method.group(2).equals("private static "));
+            }
+        }
+        Due.isTrue("rule 8: methods that were looked at, " + methods, methods > 100);
+        Due.is("rule 8: methods that call themselves", ownCallers, 1);
     }
 }
